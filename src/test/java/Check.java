@@ -1,0 +1,52 @@
+import java.util.Objects;
+import java.util.function.Consumer;
+
+/** Counts the answers that are not as due, and tells each of them. */
+final class Check {
+    interface Call {
+        Object answer();
+    }
+
+    private int wrong;
+
+    void due(String what, Object due, Object got) {
+        if (!Objects.equals(due, got)) {
+            wrong++;
+            System.out.println(what + " answered " + got + ", due is " + due);
+        }
+    }
+
+    /** The exception must be of the very class, not of one below it. */
+    void dueThrow(String what, Class<? extends RuntimeException> due, Call call) {
+        due(what, "throws " + due.getSimpleName(), outcome(call));
+    }
+
+    /** Makes the same object twice, lets one of them throw, and looks for a difference between the two. */
+    void dueThrowWithoutChange(String what, Class<? extends RuntimeException> due,
+            Consumer<Swapyard> build, Consumer<Swapyard> call) {
+        Swapyard untouched = new Swapyard();
+        build.accept(untouched);
+        Swapyard yard = new Swapyard();
+        build.accept(yard);
+        dueThrow(what, due, () -> {
+            call.accept(yard);
+            return "nothing";
+        });
+        due("all answers after " + what, Snapshot.of(untouched), Snapshot.of(yard));
+    }
+
+    static String outcome(Call call) {
+        try {
+            return String.valueOf(call.answer());
+        } catch (RuntimeException e) {
+            return "throws " + e.getClass().getSimpleName();
+        }
+    }
+
+    void end() {
+        if (wrong > 0) {
+            System.out.println(wrong + " answers are not as due");
+            System.exit(1);
+        }
+    }
+}

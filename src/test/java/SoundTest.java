@@ -1,0 +1,102 @@
+/** Promise 33, and that a run of 512 calls keeps all that happened to pages. */
+public final class SoundTest {
+    private final Check check = new Check();
+
+    public static void main(String[] args) {
+        SoundTest test = new SoundTest();
+        test.promise33BehindEachKindOfCall();
+        test.promise33SixteenFramesAndAFullStore();
+        test.promise12ManyMoves();
+        test.promise12ManyDeaths();
+        test.check.end();
+    }
+
+    private void sound(String what, Swapyard y) {
+        check.due("isSound " + what, true, y.isSound());
+    }
+
+    private void promise33BehindEachKindOfCall() {
+        Swapyard y = new Swapyard();
+        sound("at first", y);
+        Yards.addServices(y, 3);
+        sound("with services", y);
+        y.setFrames(2);
+        y.touch(0, 0);
+        sound("with a page in a frame", y);
+        y.touch(1, 1);
+        y.touch(2, 2);
+        sound("with a page in the store", y);
+        y.setSize(2, 2, 4);
+        y.touch(0, 1);
+        y.touch(0, 2);
+        y.touch(0, 3);
+        sound("with a page on the disk", y);
+        y.setRoom(1);
+        sound("with less room", y);
+        y.setFrames(1);
+        sound("with fewer frames", y);
+        y.setLimit(0);
+        y.tick(1);
+        check.due("one died", 1, y.deaths());
+        sound("behind a death", y);
+        check.dueThrow("touch", IndexOutOfBoundsException.class, () -> y.touch(3, 0));
+        sound("behind a call that throws", y);
+    }
+
+    private void promise33SixteenFramesAndAFullStore() {
+        Swapyard y = Yards.withServices(6);
+        y.setFrames(16);
+        y.setRoom(60);
+        for (int i = 0; i < 48; i++) {
+            y.touch(i / 8, i % 8);
+        }
+        check.due("the store holds 30 pages, as many as it can", 60, y.stored());
+        check.due("two are on the disk", 2, y.onDisk());
+        sound("with all 48 pages somewhere", y);
+        Swapyard small = Yards.withServices(6);
+        small.setFrames(1);
+        small.setRoom(60);
+        for (int i = 0; i < 48; i++) {
+            small.setSize(i / 8, i % 8, 1);
+            small.touch(i / 8, i % 8);
+        }
+        check.due("the store holds all but one", 47, small.stored());
+        check.due("storedAt, the last of 47", 46, small.storedAt(46));
+        sound("with 47 pages in the store", small);
+    }
+
+    /** Each touch makes three moves: one comes in, one goes to the store, one goes to the disk. */
+    private void promise12ManyMoves() {
+        Swapyard y = Yards.withServices(1);
+        y.setFrames(1);
+        y.setRoom(2);
+        for (int call = 0; call < 480; call++) {
+            y.touch(0, call % 8);
+        }
+        String due = "ddddddsf";
+        for (int page = 0; page < 8; page++) {
+            check.due("placeByEvents behind many moves", due.charAt(page), y.placeByEvents(0, page));
+            check.due("placeOf behind many moves", due.charAt(page), y.placeOf(0, page));
+        }
+        sound("behind many moves", y);
+    }
+
+    /** Pages go through all four places as often as 500 calls allow. */
+    private void promise12ManyDeaths() {
+        Swapyard y = Yards.withServices(1);
+        y.setFrames(1);
+        y.setRoom(2);
+        y.setLimit(0);
+        for (int life = 0; life < 55; life++) {
+            for (int page = 0; page < 8; page++) {
+                y.touch(0, page);
+            }
+            y.tick(1);
+        }
+        check.due("deaths", 55, y.deaths());
+        check.due("placeByEvents behind many deaths", '-', y.placeByEvents(0, 7));
+        y.touch(0, 7);
+        check.due("placeByEvents behind one more touch", 'f', y.placeByEvents(0, 7));
+        sound("behind many deaths", y);
+    }
+}
