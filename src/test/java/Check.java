@@ -35,12 +35,26 @@ final class Check {
         due("all answers after " + what, Snapshot.of(untouched), Snapshot.of(yard));
     }
 
+    /** An exception that the Java machine or its library throws is told as such, for no call may end so. */
     static String outcome(Call call) {
         try {
             return String.valueOf(call.answer());
         } catch (RuntimeException e) {
-            return "throws " + e.getClass().getSimpleName();
+            return (isThrownByCode(e) ? "throws " : "the machine throws ") + e.getClass().getSimpleName();
         }
+    }
+
+    private static boolean isThrownByCode(RuntimeException e) {
+        StackTraceElement[] trace = e.getStackTrace();
+        if (trace.length == 0) {
+            return false;
+        }
+        String thrower = trace[0].getClassName();
+        // The trace of a machine's exception can begin in the class as well, so its kind tells it.
+        boolean machine = e instanceof ArrayIndexOutOfBoundsException || e instanceof NullPointerException
+                || e instanceof ClassCastException || e instanceof NegativeArraySizeException
+                || e instanceof ArrayStoreException || "/ by zero".equals(e.getMessage());
+        return !machine && (thrower.startsWith("Swapyard") || thrower.equals("Model"));
     }
 
     void end() {

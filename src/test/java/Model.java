@@ -250,8 +250,10 @@ final class Model {
 
     int waitsFor(int service) {
         index(isService(service));
-        return services.get(service).needs.stream().filter(other -> !runs(other)).min(Integer::compare)
-                .orElseThrow(NoSuchElementException::new);
+        int lowest = services.get(service).needs.stream().filter(other -> !runs(other)).min(Integer::compare)
+                .orElse(-1);
+        element(lowest >= 0);
+        return lowest;
     }
 
     boolean isNeeded(int service) {

@@ -129,6 +129,12 @@ public final class SettingsTest {
         check.dueThrowWithoutChange("addNeed, needs it by one", CYCLE, chain, y -> y.addNeed(4, 0));
         check.dueThrowWithoutChange("addNeed, needs it by many", CYCLE, chain, y -> y.addNeed(2, 0));
         check.dueThrowWithoutChange("addNeed, needs it by two", CYCLE, chain, y -> y.addNeed(2, 1));
+        Consumer<Swapyard> byZero = y -> {
+            Yards.addServices(y, 3);
+            y.addNeed(0, 1);
+            y.addNeed(2, 0);
+        };
+        check.dueThrowWithoutChange("addNeed, needs it by service 0", CYCLE, byZero, y -> y.addNeed(1, 2));
     }
 
     private void promise4SetSize() {

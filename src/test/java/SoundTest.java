@@ -1,3 +1,6 @@
+import java.lang.reflect.Field;
+import java.util.List;
+
 /** Promise 33, and that a run of 512 calls keeps all that happened to pages. */
 public final class SoundTest {
     private final Check check = new Check();
@@ -6,6 +9,7 @@ public final class SoundTest {
         SoundTest test = new SoundTest();
         test.promise33BehindEachKindOfCall();
         test.promise33SixteenFramesAndAFullStore();
+        test.promise33FindsWhatIsUnsound();
         test.promise12ManyMoves();
         test.promise12ManyDeaths();
         test.check.end();
@@ -63,6 +67,60 @@ public final class SoundTest {
         check.due("the store holds all but one", 47, small.stored());
         check.due("storedAt, the last of 47", 46, small.storedAt(46));
         sound("with 47 pages in the store", small);
+    }
+
+    /** No run of calls makes an object unsound, so its fields are bent from outside. */
+    private void promise33FindsWhatIsUnsound() {
+        for (int service = 0; service < 2; service++) {
+            Swapyard place = threePages(service);
+            set(page(place, service, 2), "place", 'd');
+            check.due("isSound, another place than by the events", false, place.isSound());
+            Swapyard frame = threePages(service);
+            set(page(frame, service, 2), "frame", frame.frameOf(service, 1));
+            check.due("isSound, two pages in one frame", false, frame.isSound());
+            Swapyard room = threePages(service);
+            set(get(room, "store"), "room", 1);
+            check.due("isSound, too little room", false, room.isSound());
+            set(get(room, "store"), "room", 2);
+            check.due("isSound, just enough room", true, room.isSound());
+        }
+    }
+
+    /** Page 0 in the store, 1 and 2 in frames. */
+    private static Swapyard threePages(int service) {
+        Swapyard y = Yards.withServices(2);
+        y.setFrames(2);
+        for (int page = 0; page < 3; page++) {
+            y.touch(service, page);
+        }
+        return y;
+    }
+
+    private static Object page(Swapyard y, int service, int page) {
+        Object owner = ((List<?>) get(y, "services")).get(service);
+        return ((Object[]) get(owner, "pages"))[page];
+    }
+
+    private static Field field(Object of, String name) throws ReflectiveOperationException {
+        Field field = of.getClass().getDeclaredField(name);
+        field.setAccessible(true);
+        return field;
+    }
+
+    private static Object get(Object of, String name) {
+        try {
+            return field(of, name).get(of);
+        } catch (ReflectiveOperationException e) {
+            throw new IllegalStateException("the class keeps its state in another way now", e);
+        }
+    }
+
+    private static void set(Object of, String name, Object value) {
+        try {
+            field(of, name).set(of, value);
+        } catch (ReflectiveOperationException e) {
+            throw new IllegalStateException("the class keeps its state in another way now", e);
+        }
     }
 
     /** Each touch makes three moves: one comes in, one goes to the store, one goes to the disk. */

@@ -309,6 +309,17 @@ public final class TickTest {
         check.due("stateOf, all of the chain wait", "wwwwwd", states(chain, 6));
         chain.tick(2);
         check.due("stateOf, the chain runs again", "rrrrrr", states(chain, 6));
+        Swapyard down = new Swapyard();
+        for (int i = 0; i < 6; i++) {
+            down.addService(i == 1 ? 0 : 100, 'a', 3);
+        }
+        int[] order = {5, 4, 3, 2, 0, 1};
+        for (int i = 0; i < 5; i++) {
+            down.addNeed(order[i], order[i + 1]);
+        }
+        down.touch(1, 0);
+        kill(down, 1);
+        check.due("stateOf, a chain by falling numbers waits", "wdwwww", states(down, 6));
     }
 
     private void promise24WaitsFor() {
