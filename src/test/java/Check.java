@@ -7,12 +7,28 @@ final class Check {
         Object answer();
     }
 
+    interface Test {
+        void run();
+    }
+
     private int wrong;
+    private String about = "";
+
+    /** Runs the test of one sentence of the document; each wrong answer is told along with the sentence. */
+    void sentence(String place, String sentence, Test test) {
+        about = place + ", \"" + sentence + "\": ";
+        try {
+            test.run();
+        } catch (RuntimeException e) {
+            due("the test", "no exception", e);
+        }
+        about = "";
+    }
 
     void due(String what, Object due, Object got) {
         if (!Objects.equals(due, got)) {
             wrong++;
-            System.out.println(what + " answered " + got + ", due is " + due);
+            System.out.println(about + what + " answered " + got + ", due is " + due);
         }
     }
 

@@ -18,7 +18,9 @@ final class Snapshot {
         for (int s = 0; s < services; s++) {
             text.append('\n').append(service(y, s));
         }
+        text.append('\n').append(ticks(y));
         text.append('\n').append(settings(y, services));
+        text.append('\n').append(needs(y, services));
         return text.toString();
     }
 
@@ -67,6 +69,29 @@ final class Snapshot {
         return text.toString();
     }
 
+    /** The limit, and how the stalls of the last ticks pass away one tick after another. */
+    private static String ticks(Swapyard y) {
+        StringBuilder text = new StringBuilder("limit ").append(y.setLimit(999)).append(" pressures");
+        for (int tick = 0; tick < 4; tick++) {
+            y.tick(1);
+            text.append(' ').append(y.pressure());
+        }
+        return text.toString();
+    }
+
+    /** How many each needs with one more: the number grows only where that one was not needed so far. */
+    private static String needs(Swapyard y, int services) {
+        StringBuilder text = new StringBuilder("needs");
+        for (int i = 0; i < services * services; i++) {
+            int s = i / services;
+            int other = i % services;
+            if (s != other) {
+                text.append(' ').append(Check.outcome(() -> y.addNeed(s, other)));
+            }
+        }
+        return text.toString();
+    }
+
     private static String settings(Swapyard y, int services) {
         StringBuilder text = new StringBuilder("sizes");
         for (int i = 0; i < 8 * services; i++) {
@@ -74,7 +99,6 @@ final class Snapshot {
             int p = i % 8;
             text.append(' ').append(Check.outcome(() -> y.setSize(s, p, 1)));
         }
-        text.append(" limit ").append(y.setLimit(0));
         text.append(" room ").append(y.setRoom(0));
         text.append(" frames ").append(y.setFrames(1));
         return text.toString();

@@ -9,7 +9,10 @@ public final class SoundTest {
         SoundTest test = new SoundTest();
         test.promise33BehindEachKindOfCall();
         test.promise33SixteenFramesAndAFullStore();
-        test.promise33FindsWhatIsUnsound();
+        test.check.sentence("Promise 33", "Checks whether placeOf() and placeByEvents() agree for each page",
+                test::promise33FindsAnotherPlace);
+        test.check.sentence("Promise 33", "no two pages are in one frame", test::promise33FindsTwoPagesInOneFrame);
+        test.check.sentence("Promise 33", "the pages in the store have room", test::promise33FindsTooLittleRoom);
         test.promise12ManyMoves();
         test.promise12ManyDeaths();
         test.check.end();
@@ -69,36 +72,55 @@ public final class SoundTest {
         sound("with 47 pages in the store", small);
     }
 
-    /** No run of calls makes an object unsound, so its fields are bent from outside. */
-    private void promise33FindsWhatIsUnsound() {
-        for (int service = 0; service < 2; service++) {
-            Swapyard place = threePages(service);
-            set(page(place, service, 2), "place", 'd');
-            check.due("isSound, another place than by the events", false, place.isSound());
-            Swapyard frame = threePages(service);
-            set(page(frame, service, 2), "frame", frame.frameOf(service, 1));
-            check.due("isSound, two pages in one frame", false, frame.isSound());
-            Swapyard room = threePages(service);
-            set(get(room, "store"), "room", 1);
-            check.due("isSound, too little room", false, room.isSound());
-            set(get(room, "store"), "room", 2);
-            check.due("isSound, just enough room", true, room.isSound());
+    // No run of calls makes an object unsound, so in these three its fields are bent from outside.
+
+    private void promise33FindsAnotherPlace() {
+        int[] ends = {0, 7, 40, 47};
+        for (int id : ends) {
+            Swapyard y = everyPlace();
+            sound("ahead of the change", y);
+            set(page(y, id), "place", y.placeOf(id / 8, id % 8) == 'd' ? 's' : 'd');
+            check.due("isSound, page " + id + " in another place than by the events", false, y.isSound());
         }
     }
 
-    /** Page 0 in the store, 1 and 2 in frames. */
-    private static Swapyard threePages(int service) {
-        Swapyard y = Yards.withServices(2);
-        y.setFrames(2);
-        for (int page = 0; page < 3; page++) {
-            y.touch(service, page);
+    private void promise33FindsTwoPagesInOneFrame() {
+        for (int frame = 0; frame < 16; frame++) {
+            Swapyard y = everyPlace();
+            // The pages in the frames 0 to 15 are 0 to 15.
+            set(page(y, 0), "frame", frame);
+            check.due("isSound, two pages in frame " + frame, frame == 0, y.isSound());
+        }
+    }
+
+    private void promise33FindsTooLittleRoom() {
+        Swapyard y = everyPlace();
+        check.due("stored", 60, y.stored());
+        sound("with just enough room", y);
+        set(get(y, "store"), "room", 59);
+        check.due("isSound, too little room by one", false, y.isSound());
+        Swapyard empty = Yards.withServices(1);
+        empty.setRoom(0);
+        sound("with room 0 and an empty store", empty);
+    }
+
+    /** 16 pages in frames, 30 in the store and 2 on the disk. */
+    private static Swapyard everyPlace() {
+        Swapyard y = Yards.withServices(6);
+        y.setFrames(16);
+        y.setRoom(60);
+        for (int id = 16; id < 48; id++) {
+            y.touch(id / 8, id % 8);
+        }
+        for (int id = 0; id < 16; id++) {
+            y.touch(id / 8, id % 8);
         }
         return y;
     }
 
-    private static Object page(Swapyard y, int service, int page) {
-        Object owner = ((List<?>) get(y, "services")).get(service);
-        return ((Object[]) get(owner, "pages"))[page];
+    private static Object page(Swapyard y, int id) {
+        Object owner = ((List<?>) get(y, "services")).get(id / 8);
+        return ((Object[]) get(owner, "pages"))[id % 8];
     }
 
     private static Field field(Object of, String name) throws ReflectiveOperationException {

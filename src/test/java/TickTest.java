@@ -40,15 +40,6 @@ public final class TickTest {
         test.check.end();
     }
 
-    private static void kill(Swapyard y, int victim) {
-        int before = y.setLimit(0);
-        y.tick(1);
-        y.setLimit(before);
-        if (y.starts(victim) == 0 && y.stateOf(victim) != 'd') {
-            throw new IllegalStateException("the test meant another victim");
-        }
-    }
-
     private void promise9KillsAndForgets() {
         Swapyard y = new Swapyard();
         y.addService(0, 'a', 20);
@@ -116,7 +107,7 @@ public final class TickTest {
         y.touch(0, 0);
         y.touch(0, 1);
         check.due("service 0 has two in frames", 2, y.pagesIn(0, 'f'));
-        kill(y, 0);
+        Yards.kill(y, 0);
         check.due("its frames are free", 2, y.free());
         check.due("pages in the store keep their order", "8 9 10 11", Snapshot.store(y));
         check.due("its room is free", 8, y.stored());
@@ -158,7 +149,7 @@ public final class TickTest {
         y.addService(0, 'n', 2);
         y.addService(0, 'a', 1);
         y.touch(0, 0);
-        kill(y, 0);
+        Yards.kill(y, 0);
         y.tick(10);
         check.due("not needed: dead", 'd', y.stateOf(0));
         y.addNeed(1, 0);
@@ -171,7 +162,7 @@ public final class TickTest {
         early.addService(0, 'a', 1);
         early.addNeed(1, 0);
         early.touch(0, 0);
-        kill(early, 0);
+        Yards.kill(early, 0);
         early.tick(1);
         check.due("needed, but the delay is not over", 'd', early.stateOf(0));
         early.tick(1);
@@ -195,39 +186,31 @@ public final class TickTest {
         return y;
     }
 
-    private static String states(Swapyard y, int services) {
-        StringBuilder text = new StringBuilder();
-        for (int i = 0; i < services; i++) {
-            text.append(y.stateOf(i));
-        }
-        return text.toString();
-    }
-
     private void promise9StartsByRisingNumbers() {
         Swapyard up = allDead("ann", 5, 0, 1, 1, 2);
-        check.due("all are dead", "ddd", states(up, 3));
+        check.due("all are dead", "ddd", Yards.states(up, 3));
         up.tick(2);
-        check.due("0 starts, 1 and 2 wait for their delay", "wdd", states(up, 3));
+        check.due("0 starts, 1 and 2 wait for their delay", "wdd", Yards.states(up, 3));
         up.tick(1);
-        check.due("1 is needed by 0", "wwd", states(up, 3));
+        check.due("1 is needed by 0", "wwd", Yards.states(up, 3));
         up.tick(1);
-        check.due("2 is needed by 1", "rrr", states(up, 3));
+        check.due("2 is needed by 1", "rrr", Yards.states(up, 3));
         Swapyard late = allDead("nna", 5, 2, 1, 1, 0);
         late.tick(4);
-        check.due("2 has just started, too late for those ahead of it", "ddw", states(late, 3));
+        check.due("2 has just started, too late for those ahead of it", "ddw", Yards.states(late, 3));
         late.tick(1);
-        check.due("1 is needed, too late for 0", "dww", states(late, 3));
+        check.due("1 is needed, too late for 0", "dww", Yards.states(late, 3));
         late.tick(1);
-        check.due("0 is needed at last", "rrr", states(late, 3));
+        check.due("0 is needed at last", "rrr", Yards.states(late, 3));
         Swapyard chain = allDead("nnn", 3);
         chain.addService(100, 'a', 1);
         chain.tick(20);
-        check.due("none is needed", "dddr", states(chain, 4));
+        check.due("none is needed", "dddr", Yards.states(chain, 4));
         chain.addNeed(3, 0);
         chain.addNeed(0, 1);
         chain.addNeed(1, 2);
         chain.tick(1);
-        check.due("each that starts counts for those behind it", "rrrr", states(chain, 4));
+        check.due("each that starts counts for those behind it", "rrrr", Yards.states(chain, 4));
     }
 
     private void promise9NeededByOneThatWaits() {
@@ -236,10 +219,10 @@ public final class TickTest {
         y.addService(0, 'a', 1);
         y.addNeed(2, 1);
         y.addNeed(2, 0);
-        check.due("2 waits and is not dead", "ddw", states(y, 3));
+        check.due("2 waits and is not dead", "ddw", Yards.states(y, 3));
         check.due("1 is needed by one that does not run", true, y.isNeeded(1));
         y.tick(1);
-        check.due("both start for it", "rrr", states(y, 3));
+        check.due("both start for it", "rrr", Yards.states(y, 3));
     }
 
     private void promise9WrongInputs() {
@@ -282,7 +265,7 @@ public final class TickTest {
         check.due("pressure, settings make none", 0, y.pressure());
         y.touch(0, 5);
         check.due("pressure, clearing counts", 6, y.pressure());
-        kill(y, 0);
+        Yards.kill(y, 0);
         check.due("pressure, forgotten", 0, y.pressure());
     }
 
@@ -295,7 +278,7 @@ public final class TickTest {
         y.addNeed(1, 2);
         check.due("stateOf, needs one that waits", 'w', y.stateOf(1));
         y.tick(4);
-        check.due("stateOf, all run again", "rrr", states(y, 3));
+        check.due("stateOf, all run again", "rrr", Yards.states(y, 3));
         Swapyard chain = new Swapyard();
         for (int i = 0; i < 6; i++) {
             chain.addService(i == 5 ? 0 : 100, 'a', 3);
@@ -303,12 +286,12 @@ public final class TickTest {
         for (int i = 0; i < 5; i++) {
             chain.addNeed(i, i + 1);
         }
-        check.due("stateOf, a chain of six runs", "rrrrrr", states(chain, 6));
+        check.due("stateOf, a chain of six runs", "rrrrrr", Yards.states(chain, 6));
         chain.touch(5, 0);
-        kill(chain, 5);
-        check.due("stateOf, all of the chain wait", "wwwwwd", states(chain, 6));
+        Yards.kill(chain, 5);
+        check.due("stateOf, all of the chain wait", "wwwwwd", Yards.states(chain, 6));
         chain.tick(2);
-        check.due("stateOf, the chain runs again", "rrrrrr", states(chain, 6));
+        check.due("stateOf, the chain runs again", "rrrrrr", Yards.states(chain, 6));
         Swapyard down = new Swapyard();
         for (int i = 0; i < 6; i++) {
             down.addService(i == 1 ? 0 : 100, 'a', 3);
@@ -318,8 +301,8 @@ public final class TickTest {
             down.addNeed(order[i], order[i + 1]);
         }
         down.touch(1, 0);
-        kill(down, 1);
-        check.due("stateOf, a chain by falling numbers waits", "wdwwww", states(down, 6));
+        Yards.kill(down, 1);
+        check.due("stateOf, a chain by falling numbers waits", "wdwwww", Yards.states(down, 6));
     }
 
     private void promise24WaitsFor() {
@@ -336,7 +319,7 @@ public final class TickTest {
         for (int page = 0; page < 3; page++) {
             y.touch(3, page);
         }
-        kill(y, 3);
+        Yards.kill(y, 3);
         check.due("waitsFor, itself and not by others", 2, y.waitsFor(0));
         check.due("waitsFor, a dead one", 3, y.waitsFor(2));
         check.dueThrow("waitsFor, a dead one that needs none", ELEMENT, () -> y.waitsFor(3));
@@ -366,11 +349,11 @@ public final class TickTest {
         dead.addNeed(0, 1);
         dead.addNeed(1, 2);
         dead.touch(0, 0);
-        kill(dead, 0);
+        Yards.kill(dead, 0);
         check.due("isNeeded, by a dead one", false, dead.isNeeded(1));
         check.due("isNeeded, by one that runs", true, dead.isNeeded(2));
         dead.touch(2, 0);
-        kill(dead, 2);
+        Yards.kill(dead, 2);
         check.due("isNeeded, dead and by one that waits", true, dead.isNeeded(2));
         dead.tick(1);
         check.due("isNeeded, by one that has started", true, dead.isNeeded(1));
@@ -382,7 +365,7 @@ public final class TickTest {
         check.dueThrow("startsIn, never dead", STATE, () -> y.startsIn(0));
         y.tick(9);
         y.touch(0, 0);
-        kill(y, 0);
+        Yards.kill(y, 0);
         for (int left = 19; left > 1; left--) {
             check.due("startsIn", left, y.startsIn(0));
             y.tick(1);
@@ -397,12 +380,12 @@ public final class TickTest {
         Swapyard again = new Swapyard();
         again.addService(0, 'a', 3);
         again.touch(0, 0);
-        kill(again, 0);
+        Yards.kill(again, 0);
         again.tick(2);
         check.dueThrow("startsIn, started", STATE, () -> again.startsIn(0));
         again.tick(5);
         again.touch(0, 0);
-        kill(again, 0);
+        Yards.kill(again, 0);
         check.due("startsIn, from the later death", 2, again.startsIn(0));
     }
 
@@ -413,7 +396,7 @@ public final class TickTest {
         for (int life = 0; life < 5; life++) {
             check.due("starts", life, y.starts(0));
             y.touch(0, 0);
-            kill(y, 0);
+            Yards.kill(y, 0);
             check.due("starts, dead", life, y.starts(0));
             y.tick(1);
         }
@@ -435,7 +418,7 @@ public final class TickTest {
                 y.pagesIn(0, 'f') + " " + y.pagesIn(0, 's') + " " + y.pagesIn(0, 'd'));
         check.due("score, of all places", 30 + 6 + 1 - 13, y.score(0));
         check.due("score, of the other", 0, y.score(1));
-        kill(y, 0);
+        Yards.kill(y, 0);
         check.due("score, dead", -13, y.score(0));
         y.tick(2);
         check.due("score, started", -13 - 20, y.score(0));
@@ -454,11 +437,11 @@ public final class TickTest {
         y.touch(0, 0);
         y.touch(0, 1);
         check.due("victim, the same score", 0, y.victim());
-        kill(y, 0);
+        Yards.kill(y, 0);
         check.due("victim, the next of those that are not dead", 2, y.victim());
         y.addNeed(1, 0);
         y.touch(2, 1);
-        kill(y, 2);
+        Yards.kill(y, 2);
         check.due("victim, one that waits", 1, y.victim());
         check.dueThrow("victim, no services", ELEMENT, () -> new Swapyard().victim());
         Swapyard dead = allDead("nnn", 1);
