@@ -24,6 +24,7 @@ public final class SettingsTest {
         test.promise5Hand();
         test.promise5WrongInputs();
         test.promise6SetRoom();
+        test.promise6ManyPagesGoToTheDisk();
         test.promise6WrongInputs();
         test.promise7SetLimit();
         test.promise7WrongInputs();
@@ -288,6 +289,23 @@ public final class SettingsTest {
         check.due("without stalls for the service", 7L, y.stallsOf(0));
         check.due("without stalls for the mean", 1.75, y.meanStalls());
         check.due("room 0 sends each page to the disk", 6, y.touch(0, 5));
+        check.due("sound", true, y.isSound());
+    }
+
+    private void promise6ManyPagesGoToTheDisk() {
+        Swapyard y = Yards.withServices(6);
+        y.setFrames(1);
+        y.setRoom(60);
+        for (int i = 0; i < 48; i++) {
+            y.setSize(i / 8, i % 8, 1);
+            y.touch(i / 8, i % 8);
+        }
+        check.due("47 in the store", 47, y.stored());
+        check.due("setRoom, 42 of them leave", 60, y.setRoom(5));
+        check.due("those that came last stay", "42 43 44 45 46", Snapshot.store(y));
+        check.due("42 on the disk", 42, y.onDisk());
+        y.setRoom(0);
+        check.due("all 47 on the disk", 47, y.onDisk());
         check.due("sound", true, y.isSound());
     }
 

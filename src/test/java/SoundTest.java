@@ -91,6 +91,18 @@ public final class SoundTest {
             set(page(y, 0), "frame", frame);
             check.due("isSound, two pages in frame " + frame, frame == 0, y.isSound());
         }
+        for (int service = 0; service < 6; service++) {
+            for (int other = 0; other < service; other++) {
+                Swapyard y = Yards.withServices(6);
+                y.setFrames(6);
+                for (int i = 0; i < 6; i++) {
+                    y.touch(i, i);
+                }
+                sound("with a page of each service in a frame", y);
+                set(page(y, 9 * service), "frame", other);
+                check.due("isSound, services " + other + " and " + service + " in one frame", false, y.isSound());
+            }
+        }
     }
 
     private void promise33FindsTooLittleRoom() {

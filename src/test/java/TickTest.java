@@ -18,9 +18,11 @@ public final class TickTest {
         TickTest test = new TickTest();
         test.promise9KillsAndForgets();
         test.promise9TheWindowIsFourTicks();
+        test.promise9GreatPressure();
         test.promise9TheKillComesFirst();
         test.promise9DeathFreesPlaces();
         test.promise9StartsByDelay();
+        test.promise9StartsLateInTime();
         test.promise9DelayOneStartsInTheTickOfTheDeath();
         test.promise9StartsOnlyIfNeeded();
         test.promise9StartsByRisingNumbers();
@@ -34,7 +36,10 @@ public final class TickTest {
         test.promise26StartsIn();
         test.promise27Starts();
         test.promise28Score();
+        test.promise28AllPagesInOnePlace();
         test.promise29Victim();
+        test.promise29LowScores();
+        test.promise29HighScores();
         test.promise30Deaths();
         test.wrongServices();
         test.check.end();
@@ -78,6 +83,44 @@ public final class TickTest {
             y.touch(0, page);
             check.due("a stall in each tick, the " + page + "th", page == 3 ? 1 : 0, y.tick(1));
         }
+    }
+
+    private void promise9GreatPressure() {
+        Swapyard y = Yards.withServices(2);
+        Yards.beforeTheMostStalls(y);
+        y.tick(4);
+        check.due("pressure, none counts any more", 0, y.pressure());
+        y.setLimit(31);
+        y.touch(1, 0);
+        check.due("pressure, of one touch", 31, y.pressure());
+        check.due("31 are not more than 31", 0, y.tick(1));
+        y.setLimit(30);
+        check.due("31 are more than 30", 1, y.tick(1));
+        Swapyard great = greatPressure(66);
+        great.setFrames(4);
+        great.touch(0, 7);
+        great.touch(0, 6);
+        check.due("pressure, 999", 999, great.pressure());
+        check.due("999 are not more than 999", 0, great.tick(1));
+        great.touch(0, 5);
+        check.due("pressure, 1000", 1000, great.pressure());
+        check.due("1000 are more than 999", 1, great.tick(1));
+        check.due("pressure, 1000 forgotten", 0, great.pressure());
+        check.due("pressure, over 3000", 3007, greatPressure(200).pressure());
+    }
+
+    /** The limit is 999, and so many touches made 15 stalls each, another one 6 and the first 1. */
+    private static Swapyard greatPressure(int touches) {
+        Swapyard y = Yards.withServices(1);
+        y.setLimit(999);
+        y.setFrames(1);
+        y.setRoom(0);
+        y.touch(0, 0);
+        y.touch(0, 1);
+        for (int i = 0; i < touches; i++) {
+            y.touch(0, i % 2);
+        }
+        return y;
     }
 
     private void promise9TheKillComesFirst() {
@@ -130,6 +173,25 @@ public final class TickTest {
             }
             check.due("started behind the delay " + delay, 'r', y.stateOf(0));
             check.due("started once", 1, y.starts(0));
+        }
+    }
+
+    private void promise9StartsLateInTime() {
+        int[] fifties = {1, 2, 5, 6, 20, 100, 400};
+        for (int count : fifties) {
+            Swapyard y = new Swapyard();
+            y.addService(0, 'a', 3);
+            for (int i = 0; i < count; i++) {
+                y.tick(50);
+            }
+            y.touch(0, 0);
+            Yards.kill(y, 0);
+            check.due("killed at " + 50 * count + ", startsIn", 2, y.startsIn(0));
+            y.tick(1);
+            check.due("killed at " + 50 * count + ", still dead", 'd', y.stateOf(0));
+            y.tick(1);
+            check.due("killed at " + 50 * count + ", started", 'r', y.stateOf(0));
+            check.due("time", 50 * count + 3, y.time());
         }
     }
 
@@ -303,6 +365,16 @@ public final class TickTest {
         down.touch(1, 0);
         Yards.kill(down, 1);
         check.due("stateOf, a chain by falling numbers waits", "wdwwww", Yards.states(down, 6));
+        Swapyard first = new Swapyard();
+        for (int i = 0; i < 6; i++) {
+            first.addService(i == 1 ? 0 : 100, 'a', 3);
+        }
+        first.addNeed(0, 2);
+        first.addNeed(2, 5);
+        first.addNeed(5, 1);
+        first.touch(1, 0);
+        Yards.kill(first, 1);
+        check.due("stateOf, a chain over the last service waits", "wdwrrw", Yards.states(first, 6));
     }
 
     private void promise24WaitsFor() {
@@ -390,18 +462,23 @@ public final class TickTest {
     }
 
     private void promise27Starts() {
-        Swapyard y = new Swapyard();
-        y.addService(0, 'a', 2);
-        y.addService(100, 'a', 2);
-        for (int life = 0; life < 5; life++) {
-            check.due("starts", life, y.starts(0));
-            y.touch(0, 0);
-            Yards.kill(y, 0);
-            check.due("starts, dead", life, y.starts(0));
-            y.tick(1);
-        }
-        check.due("starts, the last", 5, y.starts(0));
+        Swapyard y = Yards.withServices(1);
+        y.addService(100, 'a', 1);
+        y.touch(0, 0);
+        Yards.kill(y, 0);
+        check.due("starts", 1, y.starts(0));
         check.due("starts, of the other", 0, y.starts(1));
+        Swapyard often = new Swapyard();
+        often.addService(0, 'a', 2);
+        for (int life = 0; life < 40; life++) {
+            check.due("starts", life, often.starts(0));
+            check.due("score, " + life + " starts", -20 * life, often.score(0));
+            often.touch(0, 0);
+            Yards.kill(often, 0);
+            check.due("starts, dead", life, often.starts(0));
+            often.tick(1);
+        }
+        check.due("starts, the last", 40, often.starts(0));
     }
 
     private void promise28Score() {
@@ -426,6 +503,24 @@ public final class TickTest {
         check.due("score, started, with a page", 10 - 13 - 20, y.score(0));
     }
 
+    private void promise28AllPagesInOnePlace() {
+        Swapyard y = new Swapyard();
+        y.addService(3, 'a', 3);
+        y.addService(50, 'a', 3);
+        y.setFrames(16);
+        y.setRoom(60);
+        for (int page = 0; page < 8; page++) {
+            y.touch(0, page);
+        }
+        check.due("score, all in frames", 80 - 3, y.score(0));
+        y.setFrames(1);
+        y.touch(1, 0);
+        check.due("score, all in the store", 24 - 3, y.score(0));
+        check.due("score, of the one in the frame", 10 - 50, y.score(1));
+        y.setRoom(0);
+        check.due("score, all on the disk", 8 - 3, y.score(0));
+    }
+
     private void promise29Victim() {
         Swapyard y = new Swapyard();
         y.addService(20, 'a', 3);
@@ -447,6 +542,47 @@ public final class TickTest {
         Swapyard dead = allDead("nnn", 1);
         check.dueThrow("victim, all dead", ELEMENT, dead::victim);
         check.due("ticks go on with all dead", 0, dead.tick(5));
+    }
+
+    /** Service 0 comes to the score -300; service 1 falls to it by 20 with each start, or passes it by 1. */
+    private void promise29LowScores() {
+        for (int weight = 9; weight <= 11; weight++) {
+            Swapyard y = Yards.withServices(1);
+            y.setLimit(0);
+            for (int life = 0; life < 15; life++) {
+                y.touch(0, 0);
+                y.tick(1);
+            }
+            check.due("score, 15 starts", -300, y.score(0));
+            y.addService(weight, 'a', 1);
+            for (int life = 0; life < 15; life++) {
+                y.touch(1, 0);
+                check.due("score, " + life + " starts", 10 - weight - 20 * life, y.score(1));
+                check.due("victim, the one with fewer starts", 1, y.victim());
+                y.tick(1);
+            }
+            y.touch(1, 0);
+            check.due("score, 15 starts and the weight " + weight, -290 - weight, y.score(1));
+            check.due("victim, -300 or " + y.score(1), weight == 9 ? 1 : 0, y.victim());
+            y.tick(1);
+            check.due("the victim is killed", weight == 9 ? 16 : 15, y.starts(1));
+        }
+    }
+
+    private void promise29HighScores() {
+        for (int weight = 0; weight <= 2; weight++) {
+            Swapyard y = new Swapyard();
+            y.addService(1, 'a', 3);
+            y.addService(weight, 'a', 3);
+            y.setFrames(16);
+            for (int page = 0; page < 8; page++) {
+                y.touch(0, page);
+                y.touch(1, page);
+            }
+            check.due("score, eight pages in frames", 79, y.score(0));
+            check.due("score, the other", 80 - weight, y.score(1));
+            check.due("victim, 79 or " + y.score(1), weight == 0 ? 1 : 0, y.victim());
+        }
     }
 
     private void promise30Deaths() {

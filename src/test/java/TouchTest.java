@@ -23,6 +23,7 @@ public final class TouchTest {
         test.promise8ThePageLeavesTheStoreFirst();
         test.promise8StoreDrivesOutTheLongest();
         test.promise8TooGreatAPageLeavesTheStoreAsItIs();
+        test.promise8TheMostStalls();
         test.promise8SecondLooks();
         test.promise8TheHandPassesFramesOfOtherServices();
         test.promise8LowestFreeFrame();
@@ -41,6 +42,7 @@ public final class TouchTest {
         test.promise20WrongInputs();
         test.promise22StallsOf();
         test.promises31And32Means();
+        test.promises22And32GreatSums();
         test.check.end();
     }
 
@@ -104,6 +106,22 @@ public final class TouchTest {
         check.due("a page greater than the room", 1 + 5, y.touch(0, 2));
         check.due("it is on the disk", 'd', y.placeOf(0, 1));
         check.due("the store stays as it is", "0", Snapshot.store(y));
+    }
+
+    /** 10 from the disk, 1 into the store, and 5 for each of the four pages that have to leave it. */
+    private void promise8TheMostStalls() {
+        Swapyard y = Yards.withServices(2);
+        Yards.beforeTheMostStalls(y);
+        check.due("four small ones", "0 1 2 3", Snapshot.store(y));
+        check.due("stallsOf before", 0L, y.stallsOf(1) - 1);
+        int before = y.pressure();
+        double sum = y.meanStalls() * 6;
+        check.due("the most stalls of one touch", 31, y.touch(1, 0));
+        check.due("all four went to the disk", 4, y.onDisk());
+        check.due("the great one stays", "4", Snapshot.store(y));
+        check.due("stallsOf, all of the 31", 31L, y.stallsOf(1) - 1);
+        check.due("pressure, all of the 31", 31, y.pressure() - before);
+        check.due("meanStalls, all of the 31", (sum + 31) / 7, y.meanStalls());
     }
 
     private void promise8SecondLooks() {
@@ -460,5 +478,24 @@ public final class TouchTest {
         y.tick(50);
         check.due("smoothShare, deaths leave it", 5f / 7f, y.smoothShare());
         check.due("meanStalls, deaths leave it", 2.0 / 7.0, y.meanStalls());
+    }
+
+    private void promises22And32GreatSums() {
+        Swapyard y = Yards.withServices(1);
+        y.setFrames(1);
+        y.setRoom(0);
+        y.touch(0, 0);
+        y.touch(0, 1);
+        for (int i = 0; i < 200; i++) {
+            check.due("touch, one from the disk for one to the disk", 15, y.touch(0, i % 2));
+        }
+        check.due("stallsOf, over 3000", 1L + 6L + 200L * 15L, y.stallsOf(0));
+        check.due("meanStalls, over 3000 of 202", 3007.0 / 202.0, y.meanStalls());
+        check.due("smoothShare, none of 202", 0f, y.smoothShare());
+        for (int i = 0; i < 101; i++) {
+            y.touch(0, 1);
+        }
+        check.due("smoothShare, 101 of 303", 101f / 303f, y.smoothShare());
+        check.due("meanStalls, over 3000 of 303", 3007.0 / 303.0, y.meanStalls());
     }
 }

@@ -78,6 +78,23 @@ final class Yards {
         touchPages(y, 5, 7);
     }
 
+    /**
+     * For two new services: a touch of page 0 of service 1 now makes 31 stalls. It is on the disk, page 4 of service
+     * 0 with the size 4 is in the only frame, and four pages of the size 1 fill the store.
+     */
+    static void beforeTheMostStalls(Swapyard y) {
+        y.setFrames(1);
+        y.setRoom(0);
+        for (int page = 0; page < 4; page++) {
+            y.setSize(0, page, 1);
+        }
+        y.setSize(0, 4, 4);
+        y.touch(1, 0);
+        y.touch(0, 0);
+        y.setRoom(4);
+        touchPages(y, 0, 1, 2, 3, 4);
+    }
+
     static void touchPages(Swapyard y, int service, int... pages) {
         for (int page : pages) {
             y.touch(service, page);
